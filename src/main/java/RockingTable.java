@@ -79,15 +79,15 @@ public final class RockingTable {
 
     public int text(int sort) {
         if (sort == 0) {
-            return takeGarden();
+            return gardenReader.read(tape, draft) == NONE ? takeGarden() : NONE;
         }
-        return sort == 1 ? takeWish() : NONE;
+        if (sort == 1) {
+            return wishReader.read(tape) == NONE ? takeWish() : NONE;
+        }
+        return NONE;
     }
 
     private int takeGarden() {
-        if (gardenReader.read(tape, draft) != NONE) {
-            return NONE;
-        }
         Garden read = draft;
         draft = garden;
         garden = read;
@@ -101,7 +101,7 @@ public final class RockingTable {
     }
 
     private int takeWish() {
-        if (wishCount < 0 || wishCount >= wishes.length || wishReader.read(tape) != NONE) {
+        if (wishCount < 0 || wishCount >= wishes.length) {
             return NONE;
         }
         wishes[wishCount].take(wishReader.code, wishReader.size);

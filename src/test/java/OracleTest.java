@@ -26,7 +26,68 @@ public final class OracleTest {
                 one.ask(seed);
             }
         }
+        planes();
         Check.finish("OracleTest");
+    }
+
+    /** HEIGHTS at their bounds, where two POINTS do it just or just not. */
+    private static void planes() {
+        Random random = new Random(13);
+        for (int i = 0; i < 1500; i++) {
+            int n = 4 + 2 * random.nextInt(3);
+            int[] heights = new int[n];
+            for (int k = 0; k < n; k++) {
+                heights[k] = random.nextBoolean() ? edge(random) : 40 + random.nextInt(20);
+            }
+            int[] shorts = new int[4];
+            for (int k = 0; k < 4 && random.nextInt(3) > 0; k++) {
+                shorts[k] = random.nextBoolean() ? edge(random) : random.nextInt(4);
+            }
+            plane(heights, 1 + random.nextInt(n / 2 - 1), shorts, random.nextInt(n));
+        }
+        for (int i = 0; i < 1500; i++) {
+            oneGapAlone(random);
+        }
+    }
+
+    /** Eight POINTS by ANGLE 2: GAP is 0 at the next TURNING, and far or near at TURNING p, by other POINTS. */
+    private static void oneGapAlone(Random random) {
+        int[] shorts = {random.nextInt(100), random.nextInt(100), random.nextInt(100), random.nextInt(100)};
+        int lean = shorts[0] + shorts[2] - shorts[1] - shorts[3];
+        int half = Math.abs(lean) / 2;
+        int rest = Math.abs(lean) - half;
+        int a = random.nextInt(100);
+        int b = random.nextInt(100);
+        int c = random.nextInt(100);
+        // GAP a + b - c - d less lean; often just what two of the four POINTS can do, or 1 more
+        int capable = lean > 0 ? Math.max(99 - a, 99 - b) + c : Math.max(a, b) + 99 - c;
+        int d = lean > 0 ? a + b - c - lean + capable : a + b - c - lean - capable;
+        d = Math.max(0, Math.min(99, d + random.nextInt(3) - 1));
+        int[] laid = lean > 0 ? new int[] {a, half, c, 0, b, rest, d, 0} : new int[] {a, 0, c, half, b, 0, d, rest};
+        int p = random.nextInt(8);
+        int[] heights = new int[8];
+        for (int k = 0; k < 8; k++) {
+            heights[(k + p) % 8] = laid[k];
+        }
+        plane(heights, 2, shorts, p);
+    }
+
+    private static void plane(int[] heights, int angle, int[] shorts, int p) {
+        StringBuilder text = new StringBuilder("ta" + angle);
+        for (int k = 0; k < 4; k++) {
+            text.append("wxyz".charAt(k)).append(shorts[k]);
+        }
+        for (int k = 0; k < heights.length; k++) {
+            text.append(k == 0 ? ";g" : ",").append(heights[k]);
+        }
+        RockingTable table = Check.garden(text.toString());
+        SlowTable slow = new SlowTable();
+        slow.plant(heights, angle, shorts, new ArrayList<>());
+        Check.due(text + " plane " + p, table.plane(p), slow.plane(p));
+    }
+
+    private static int edge(Random random) {
+        return random.nextBoolean() ? random.nextInt(3) : 99 - random.nextInt(3);
     }
 
     /** Mostly 0 .. most, now and then a little or far beyond. */

@@ -90,6 +90,14 @@ public final class PromiseTest {
         due("refused: as it was", table.count(4), 159);
         due("one fits", table.feed(0, 0, 0, 0, 1 << 31), 160);
         due("a byte above 127 is a FAULT", table.fault(0), 159);
+        due("end(157)", table.end(157), true);
+        for (int i = 0; i < 5; i++) {
+            int four = 0x01020304;
+            due("four bytes, three fit: number " + i, table.feed(i == 0 ? four : 0, i == 1 ? four : 0,
+                    i == 2 ? four : 0, i == 3 ? four : 0, i == 4 ? four : 0), NONE);
+        }
+        due("refused: as it was", table.count(4), 157);
+        due("three bytes fit", table.feed(0, 0x01000000, 0x00010000, 0, 0x00000100), 160);
     }
 
     // 4, 5 (FAULTS by FaultTest)
@@ -408,6 +416,8 @@ public final class PromiseTest {
         due("no sorts, it STANDS", Check.garden("g1,1,1,1").wedges(0, -1), 0);
         due("no sorts, what 0", Check.garden("g1,1,1,1").wedges(0, 0), HIDDEN);
         due("no sorts, it can't be", Check.garden("g2,1,1,1").wedges(0, -1), HIDDEN);
+        due("the thickest piles of the last sorts", Check.garden("g99,0,99,0;tx99z63;c;c;ct20n9;ct20n9").wedges(0, -1), 18);
+        due("and the other way", Check.garden("g0,99,0,99;tw99y63;c;c;ct20n9;ct20n9").wedges(0, 3), 9);
         due("all there are", Check.garden("g99,0,99,0;tx99z99;ct20n9;ct11n9;ct13n9").wedges(0, -1), 27);
     }
 
@@ -633,6 +643,11 @@ public final class PromiseTest {
         due("flip: digits", table.flip(0), 132);
         due("flip: how many", table.flip(1), 4);
         due("how SHORT they are stays", table.shorter(2), 3);
+        // across 3, 0, 1, 2: GAPS 3, -1, -1, -1 with whole legs; the most STANDS if all are 1 more, which
+        // 1 + 9 beneath legs 0 and 2 against 4 + 7 make alone
+        table = Check.garden("g3,0,1,2,0,0,0,0;tw4x7y1z9");
+        due("flip: legs 2 and 3 ahead", table.flip(0), 2031);
+        due("flip: how many", table.flip(1), 6);
     }
 
     private static int standing(long seed, int most) {
@@ -658,6 +673,12 @@ public final class PromiseTest {
         due("one for the one", Check.garden("g5,0,0,0,0,0,0,0;ta2").plane(0), 1);
         due("the next one goes round", Check.garden("g5,0,0,0,0,0,0,0;ta2").plane(7), 1);
         due("three are needed", Check.garden("g99,7,0,0,99,0,0,0;ta2").plane(0), NONE);
+        // GAP 170 at 0, 0 at 1: POINTS 0 and 4 can be 90 and 10 lower, 2 and 6 be 80 and 20 higher
+        due("two of different legs, just", Check.garden("g90,0,19,84,10,0,79,84;ta2x84z84").plane(0), 2);
+        due("two of different legs, just not", Check.garden("g90,0,19,85,10,0,79,84;ta2x85z84").plane(0), NONE);
+        due("a POINT beneath no leg doesn't help", Check.garden("g90,0,19,85,0,10,0,79,84,0;ta2x85z84").plane(0), NONE);
+        due("GAP below 0, just", Check.garden("g9,84,80,0,89,84,20,0;ta2w84y84").plane(0), 2);
+        due("GAP below 0, just not", Check.garden("g9,85,80,0,89,84,20,0;ta2w85y84").plane(0), NONE);
         due("two for one alone", Check.garden("g99,0,0,0,99,0,0,0;ta2").plane(0), 2);
     }
 
