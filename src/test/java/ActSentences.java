@@ -16,6 +16,7 @@ final class ActSentences {
         draws();
         undo();
         latestForty();
+        lastPoint();
         image();
         back();
         count();
@@ -205,6 +206,24 @@ final class ActSentences {
         Sentence.due("the next ACT is the first", table.heap(0, 1), 1);
         Sentence.due("undo", table.undo(), 0);
         Sentence.due("height(0)", table.height(0), 71);
+    }
+
+    /** Of 24 POINTS the last one is UNDONE and kept as the others are. */
+    private static void lastPoint() {
+        Sentence.of(37, "The latest ACT is UNDONE: how many still can be.");
+        RockingTable table = Check.garden("g" + "1,".repeat(23) + "77");
+        table.heap(23, 5);
+        table.drawn(8, 0);
+        table.undo();
+        Sentence.due("24 POINTS: height(23)", table.height(23), 5);
+        table.undo();
+        Sentence.due("24 POINTS: height(23)", table.height(23), 77);
+        Sentence.of(39, "BACK: they are so again (no ACT can be UNDONE then).");
+        table.image();
+        table.drawn(8, 0);
+        table.back();
+        Sentence.due("24 POINTS: height(23)", table.height(23), 77);
+        Sentence.due("24 POINTS: height(0)", table.height(0), 1);
     }
 
     private static void image() {

@@ -107,6 +107,11 @@ final class ApartSentences {
         serves("g1,1,1,1;tx99z99", 198, 4);
         serves("g1,1,1,1;tw99y99", -198, 4);
         serves(SIX, 0, 2);
+        // GAPS -5, 5, 0 and -5, 0, 5, 1 more, 1 less
+        serves("g2,9,3,3,1,2", 0, 2);
+        serves("g2,9,9,3,1,1", 0, 2);
+        serves("g2,9,3,3,1,2;tx1", 1, 2);
+        serves("g2,9,9,3,1,1;tw1", -1, 2);
         // GAPS 6, 1, -4; 4, -1, -6; 7, 2, -3; 3, -2, -7; 10, 5, 0
         serves(SIX + ";tx1", 1, 2);
         serves(SIX + ";tw1", -1, 2);
@@ -418,6 +423,8 @@ final class ApartSentences {
         plane("g7,0,7,0,0,0", 0, 1);
         plane("g9,2,3,1,3,2", 0, 1);
         plane("g9,2,4,1,3,2", 0, 2);
+        // GAP 50 at TURNING 23, which POINT 23 alone can make less, 0 at TURNING 0
+        plane("g0,0,0,0,0,99,99,0,0,0,0,0,0,0,0,0,0,99,50,0,0,0,0,99;ta6x99z50", 23, 1);
     }
 
     private static void planeByTwo() {
@@ -446,6 +453,19 @@ final class ApartSentences {
         plane("g0,0,96,0,0,37;ta2w19x18z99", 0, NONE);
         plane("g0,22,0,0,0,85;ty84z99", 5, NONE);
         plane("g60,0,43,5,0,0;ta2w99x99z39", 2, NONE);
+        // it could be if one of two HEIGHTS that change the same GAP were -1 or 100
+        plane("g99,59,99,0,99,64,0,58;ta2w99x99z99", 5, NONE);
+        plane("g99,99,0,98,0,99,0,0;ta2w99x99y99", 7, NONE);
+        plane("g50,99,99,99,0,0;ta2z50", 3, NONE);
+        plane("g33,0,34,99,0,0,99,0;ta2x99", 5, NONE);
+        plane("g99,99,98,0,99,0,0,0;ta2x99", 3, NONE);
+        plane("g0,39,99,0,10,25;tx75", 4, NONE);
+        plane("g0,99,0,0,99,1;ta2y98z99", 0, NONE);
+        // two HEIGHTS that change the same GAP against one another can't make up for what they could alike
+        plane("g89,0,20,99,99,0,2,99;ta2x99z99", 5, NONE);
+        plane("g99,0,99,99,53,0,3,99;ta2w99y99", 7, NONE);
+        plane("g99,99,11,0,63,0,67,0;ta2w99", 5, 2);
+        plane("g99,71,99,62,99,0,0,78;ta2y99", 0, 2);
         for (int p : extremes(0, 3)) {
             plane("g1,1,1,1", p, NONE);
         }
@@ -467,6 +487,16 @@ final class ApartSentences {
     private static void planeByTheseAlone() {
         Sentence.of(33, "PLANE: the fewest POINTS whose HEIGHTS have to be others (0 .. 99) so that GAP is 0 at a TURNING and at the next one "
                 + "(round; two at most).");
+        byThese("g99,0,99,99,37,99;tx99y99", 3, 1, 99, 4, 99);
+        byThese("g0,0,99,0,0,58;ta2", 5, 2, 0, 5, 0);
+        byThese("g0,0,0,35,0,35,99,99;ta2z99", 3, 1, 99, 7, 0);
+        byThese("g0,99,99,63,0,46,99,0;ta2x99z99", 7, 3, 0, 5, 99);
+        byThese("g34,99,99,99,0,99,99,0;tw99z99", 4, 0, 99, 4, 99);
+        byThese("g99,99,64,0,99,34;tz99", 2, 2, 0, 5, 0);
+        byThese("g99,0,0,99,0,0,26,99;ta2w99y99", 7, 4, 99, 6, 0);
+        byThese("g32,99,99,0,0,99,48,0;ta2w99y99", 5, 0, 0, 6, 99);
+        byThese("g0,99,99,29,99,99;tw99x99", 4, 0, 99, 3, 99);
+        byThese("g0,99,0,0,0,99,99,0;tx99y99", 3, 1, 0, 5, 0);
         byThese("g99,0,0,0,0,0,0,0,99,0;ta4w99", 3, 4, 99, 9, 99);
         byThese("g0,91,99,0,0,0,99,0,99,0;ta4y99z99", 0, 1, 0, 6, 0);
         byThese("g0,99,99,99,0,99,99,99,0,99;ta2x6z99", 9, 5, 93, 9, 93);

@@ -218,8 +218,14 @@ final class MendSentences {
             table.rock(0, -1);
         }
         Sentence.due("19: SHORTS of leg 1", table.shorts(1, 0), 2);
-        table.rock(0, 0);
-        Sentence.due("20: SHORTS of leg 1", table.shorts(1, 0), 0);
+        table.rock(1, -1);
+        Sentence.due("20, the last at TURNING 1: SHORTS of leg 1", table.shorts(1, 0), 0);
+        table = Check.garden(FOUR);
+        for (int i = 0; i < 19; i++) {
+            table.rock(0, -1);
+        }
+        table.rock(1, 1);
+        Sentence.due("20, the last above 0: SHORTS of leg 1", table.shorts(1, 0), 2);
     }
 
     /** How many SHORTS a leg has if it ROCKED so once. */
