@@ -1,11 +1,9 @@
-import java.io.IOException;
 import java.net.URL;
 import java.net.URLClassLoader;
 import java.nio.file.Files;
 import java.nio.file.Path;
 import java.util.regex.Matcher;
 import java.util.regex.Pattern;
-import javax.tools.ToolProvider;
 
 /** README.md's code does what its lines say: it is compiled, each line with an answer behind it is asked. */
 public final class ReadmeTest {
@@ -51,12 +49,12 @@ public final class ReadmeTest {
                 + methods + "public static int run() {\n" + lines + "return wrong;\n}\n}\n";
     }
 
-    private static void run(String program) throws IOException, ReflectiveOperationException {
+    private static void run(String program) throws Exception {
         Path room = Files.createTempDirectory("readme");
         Path source = room.resolve("ReadmeCode.java");
         Files.writeString(source, program);
-        int refused = ToolProvider.getSystemJavaCompiler().run(null, null, null,
-                "-proc:none", "-cp", System.getProperty("java.class.path"), "-d", room.toString(), source.toString());
+        int refused = new ProcessBuilder("javac", "-proc:none", "-cp", System.getProperty("java.class.path"),
+                "-d", room.toString(), source.toString()).inheritIO().start().waitFor();
         Check.due("README.md's code is compiled", refused, 0);
         if (refused == 0) {
             try (URLClassLoader loader = new URLClassLoader(new URL[] {room.toUri().toURL()})) {
